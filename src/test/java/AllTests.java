@@ -4,6 +4,7 @@ final class AllTests {
     }
 
     public static void main(String[] args) throws Exception {
+        RuleTests.run();
         ReadingTests.run();
         AskingTests.run();
         PageTests.run();

@@ -14,6 +14,7 @@ final class PageTests {
         readInTheOrderTaken();
         images();
         imagesHoldAll();
+        imagesHoldOrders();
     }
 
     private static void set() {
@@ -181,5 +182,26 @@ final class PageTests {
         Checks.is("the habit", x.told(6), 0);
         Checks.is("texts stay", x.told(2), 3);
         Checks.is("the tape stays", x.count(1), 20);
+    }
+
+    private static void imagesHoldOrders() {
+        WornType x = Checks.made("letter o 1 9;letter o 1 2;letter n 2 9;faint 3;like o e;", "on,en;no;ne;", "on no");
+        x.set(0, 1);
+        x.want(0, 1, 9, 1);
+        x.want(0, 2, 8, 2);
+        Checks.is("the later week is too late", x.greedy(1), 0);
+        x.image();
+        x.apart(0);
+        x.habit(1);
+        x.set(0, 1);
+        x.forget();
+        x.want(0, 1, 1, 1);
+        x.want(0, 2, 2, 2);
+        Checks.is("in the other order", x.read(0, 1), 3);
+        Checks.is("restored", x.restore(), 0);
+        Checks.is("the first o as before", x.read(0, 0), 1);
+        Checks.is("the second o as before", x.read(0, 1), 2);
+        x.apart(0);
+        Checks.is("week 8 ahead of week 9", x.greedy(1), 2);
     }
 }
