@@ -1566,7 +1566,6 @@ public final class WornType {
             copyRow(here, next);
             tryFrom(weeks, depth + 1, worth, bits);
             int want = look(weeks.order, depth);
-            copyRow(here, next);
             if (weeks.printOne(want, next)) {
                 tryFrom(weeks, depth + 1, worth + look(weeks.state.wantWorths, want), bits | 1 << want);
             }

@@ -1,5 +1,3 @@
-import java.lang.reflect.InvocationTargetException;
-import java.lang.reflect.Method;
 import java.nio.charset.StandardCharsets;
 import java.util.ArrayList;
 import java.util.Arrays;
@@ -21,7 +19,7 @@ final class AgainstModelTests {
         numbers = new Numbers(seed);
     }
 
-    static void run() throws Exception {
+    static void run() {
         for (int seed = 0; seed < Integer.getInteger("runs", 400); seed++) {
             new AgainstModelTests(seed).oneRun();
         }
@@ -41,7 +39,7 @@ final class AgainstModelTests {
         }
     }
 
-    private void oneRun() throws Exception {
+    private void oneRun() {
         int failedBefore = Checks.failed;
         give("kase", kase());
         give("tongue", tongue());
@@ -57,7 +55,7 @@ final class AgainstModelTests {
         }
     }
 
-    private void step() throws Exception {
+    private void step() {
         String name = CALLS[numbers.below(CALLS.length)];
         boolean rare = numbers.below(6) == 0;
         switch (name) {
@@ -201,7 +199,7 @@ final class AgainstModelTests {
         return text.toString();
     }
 
-    private void give(String name, String text) throws Exception {
+    private void give(String name, String text) {
         byte[] all = text.getBytes(StandardCharsets.ISO_8859_1);
         byte[] padded = Arrays.copyOf(all, (all.length + 19) / 20 * 20);
         for (int i = 0; i < padded.length; i += 20) {
@@ -224,9 +222,9 @@ final class AgainstModelTests {
         call("fault");
     }
 
-    private String call(String name, int... arguments) throws Exception {
-        String got = outcome(x, name, arguments);
-        String due = outcome(model, name, arguments);
+    private String call(String name, int... arguments) {
+        String got = Checks.outcome(x, name, arguments);
+        String due = Checks.outcome(model, name, arguments);
         log.add(name + Arrays.toString(arguments) + " " + got);
         if (got.equals(due)) {
             Checks.passed++;
@@ -235,20 +233,5 @@ final class AgainstModelTests {
             System.out.println(name + Arrays.toString(arguments) + " answered " + got + ", due is " + due);
         }
         return got;
-    }
-
-    private static String outcome(Object on, String name, int[] arguments) throws Exception {
-        Class<?>[] kinds = new Class<?>[arguments.length];
-        Object[] values = new Object[arguments.length];
-        for (int i = 0; i < arguments.length; i++) {
-            kinds[i] = int.class;
-            values[i] = arguments[i];
-        }
-        Method method = on.getClass().getDeclaredMethod(name, kinds);
-        try {
-            return method.invoke(on, values).toString();
-        } catch (InvocationTargetException e) {
-            return e.getCause().getClass().getSimpleName();
-        }
     }
 }

@@ -5,6 +5,13 @@ final class AllTests {
 
     public static void main(String[] args) throws Exception {
         RuleTests.run();
+        RefusalTests.run();
+        CaseEdges.run();
+        TongueEdges.run();
+        PageEdges.run();
+        WordingEdges.run();
+        WeekEdges.run();
+        TradeEdges.run();
         ReadingTests.run();
         AskingTests.run();
         PageTests.run();

@@ -1,3 +1,5 @@
+import java.lang.reflect.InvocationTargetException;
+import java.lang.reflect.Method;
 import java.nio.charset.StandardCharsets;
 import java.util.Arrays;
 import java.util.concurrent.Callable;
@@ -17,6 +19,33 @@ final class Checks {
         }
         failed++;
         System.out.println(what + " answered " + got + ", due is " + due);
+    }
+
+    static void same(String what, Object got, Object due) {
+        if (got.equals(due)) {
+            passed++;
+            return;
+        }
+        failed++;
+        System.out.println(what + " answered " + got + ", due is " + due);
+    }
+
+    /** What a call answers, or the name of what it throws. */
+    static String outcome(Object on, String name, int... arguments) {
+        Class<?>[] kinds = new Class<?>[arguments.length];
+        Object[] values = new Object[arguments.length];
+        for (int i = 0; i < arguments.length; i++) {
+            kinds[i] = int.class;
+            values[i] = arguments[i];
+        }
+        try {
+            Method method = on.getClass().getDeclaredMethod(name, kinds);
+            return method.invoke(on, values).toString();
+        } catch (InvocationTargetException e) {
+            return e.getCause().getClass().getSimpleName();
+        } catch (ReflectiveOperationException e) {
+            throw new IllegalStateException("a test's own call can't be made: " + name, e);
+        }
     }
 
     static void raises(String what, Class<? extends RuntimeException> due, Callable<Integer> call) {
