@@ -12,6 +12,7 @@ final class AllTests {
         WordingEdges.run();
         WeekEdges.run();
         TradeEdges.run();
+        EachTests.run();
         ReadingTests.run();
         AskingTests.run();
         PageTests.run();

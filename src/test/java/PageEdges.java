@@ -291,17 +291,18 @@ final class PageEdges {
         }
     }
 
-    /** Twelve pieces of each stand in a row with those of the next letter. */
+    /** Twelve pieces of each stand in a row with those of the next letter, which would do better. */
     private static void setTakesOfItsOwnLetter() {
         for (int habit = 0; habit <= 1; habit++) {
-            WornType x = Checks.made("letter a 11 5;letter a 1 400;letter b 1 1;letter b 10 7;letter b 1 400;letter c 12 5;",
+            String twelve = " 12 " + (habit == 0 ? 5 : 400) + ";";
+            WornType x = Checks.made("letter a" + twelve + "letter b 1 20;letter b 10 7;letter b 1 20;letter c" + twelve,
                 "b;bbb;", "b", "bbb");
             x.habit(habit);
-            Checks.is("can", x.can(0), 400);
+            Checks.is("can", x.can(0), 20);
             Checks.is("can", x.can(1), 7);
-            Checks.is("set", x.set(0, habit == 0 ? 1 : 400), 0);
-            Checks.is("one of b by " + habit, x.piece(1, habit == 0 ? 0 : 11, 1), 0);
-            Checks.is("set", x.set(1, 7), 1);
+            Checks.is("set", x.set(0, 2), 0);
+            Checks.is("one of b by " + habit, x.piece(1, habit == 0 ? 1 : 0, 1), 0);
+            Checks.is("set", x.set(1, 2), 1);
             Checks.is("b in the case", x.letter(1, 1), 8);
             Checks.is("a in the case", x.letter(0, 1), 12);
             Checks.is("c in the case", x.letter(2, 1), 12);

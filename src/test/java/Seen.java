@@ -86,9 +86,10 @@ final class Seen {
             see("letter", letter, 7);
         }
         for (int word = 0; word < 7; word++) {
-            for (int what = 0; what < 4; what++) {
+            for (int what = 0; what < 5; what++) {
                 see("word", word, what);
             }
+            see("ends", word);
         }
         for (int text = 0; text < 4; text++) {
             see("at", text, 0);
@@ -117,8 +118,9 @@ final class Seen {
     private void lookAtPages() {
         see("told", 3);
         for (int page = 0; page < 4; page++) {
-            see("page", page, 0);
-            see("page", page, 1);
+            for (int what = 0; what < 5; what++) {
+                see("page", page, what);
+            }
             see("read", page, 0);
             see("read", page, 1);
         }

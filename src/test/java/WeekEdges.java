@@ -27,6 +27,7 @@ final class WeekEdges {
         boundByItsOwnLetter();
         boundOfAllWorth();
         saidBehindWeeksAhead();
+        saidByWhatIsLeftOfEach();
         lostOfNoneAndOfAll();
         endsFromZeroTo100();
         endsOfWhatWasNeverThere();
@@ -377,6 +378,21 @@ final class WeekEdges {
         }
         x.set(0, 1);
         Checks.is("from the case", x.said(0, 0), 0);
+    }
+
+    private static void saidByWhatIsLeftOfEach() {
+        WornType x = Checks.made("letter a 3 10;", "a;aa;aaa;", "a");
+        x.want(0, 4, 0, 1);
+        x.want(0, 6, 1, 1);
+        int[][] due = {{10, 10, 10}, {10, 10, 6}, {10, 10, 0}};
+        for (int week = 0; week < due.length; week++) {
+            for (int word = 0; word < 3; word++) {
+                Checks.is("word " + word + " in week " + week, x.said(word, week), due[week][word]);
+            }
+        }
+        Checks.is("lost", x.lost(2), 1);
+        Checks.is("three end", x.ends(2), 2);
+        Checks.is("two do not", x.ends(1), -1);
     }
 
     // "LOST: it CAN not"; promise 30: "How many WORDS are LOST in a WEEK."

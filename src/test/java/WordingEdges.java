@@ -23,6 +23,7 @@ final class WordingEdges {
         leastBehindACheaperOne();
         fittingByOneCopy();
         fittingByOnePiece();
+        fittingByEachLetter();
         fittingOfAlikeTheFirst();
         fittingFromTheCase();
         fittingEachPlace();
@@ -181,6 +182,18 @@ final class WordingEdges {
         Checks.is("12 of 11", z.fitting(0, 9, 0, 0), 13);
         Checks.is("the last is the other", z.fitting(0, 9, 11, 1), 1);
         Checks.is("the one ahead is not", z.fitting(0, 9, 10, 1), 0);
+    }
+
+    private static void fittingByEachLetter() {
+        for (int missing = 0; missing < 3; missing++) {
+            StringBuilder text = new StringBuilder("price z 99;letter z 1 9;");
+            for (int i = 0; i < 3; i++) {
+                text.append("letter ").append("abc".charAt(i)).append(" 1 ").append(i == missing ? 8 : 9).append(';');
+            }
+            WornType x = Checks.made(text.toString(), "abc,z;", "abc");
+            Checks.is("abc for 8", x.fitting(0, 8, 0, 0), 3);
+            Checks.is("z for 9, by letter " + missing, x.fitting(0, 9, 0, 0), 99);
+        }
     }
 
     private static void fittingOfAlikeTheFirst() {
