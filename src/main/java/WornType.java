@@ -1483,6 +1483,7 @@ public final class WornType {
         private final State state;
         private final Stock stock;
         private final int[][] lefts;
+        private final int[] leftBehind;
         private final int[] order;
         private final int[] need;
         private int worth;
@@ -1494,7 +1495,8 @@ public final class WornType {
             this.texts = texts;
             this.state = state;
             this.stock = stock;
-            lefts = new int[WANTED + 1][ALL];
+            lefts = new int[WANTED][ALL];
+            leftBehind = new int[ALL];
             order = new int[WANTED];
             need = new int[LETTERS];
         }
@@ -1504,8 +1506,7 @@ public final class WornType {
             worth = 0;
             bits = 0;
             sets = 0;
-            copyRow(state.left, lefts[0]);
-            tryFrom(this, 0, 0, 0);
+            tryFrom(this, state.left, 0, 0, 0);
         }
 
         /** Prints each that can be, of the WEEKS ahead of one. */
@@ -1521,7 +1522,7 @@ public final class WornType {
 
         int stillSaid(int word) {
             tongue.spell(word, need);
-            return stock.often(need, lefts[0]);
+            return stock.often(need, leftBehind);
         }
 
         int wordsLost() {
@@ -1556,18 +1557,18 @@ public final class WornType {
             return least;
         }
 
-        private static void tryFrom(Weeks weeks, int depth, int worth, int bits) {
-            if (depth < 0 || depth >= weeks.state.wanted || depth + 1 >= weeks.lefts.length) {
+        /** Each depth prints in a row of its own, so that what was LEFT ahead of it stands until both ways are tried. */
+        private static void tryFrom(Weeks weeks, int[] left, int depth, int worth, int bits) {
+            if (depth < 0 || depth >= weeks.state.wanted || depth >= weeks.lefts.length) {
                 weeks.keep(worth, bits);
                 return;
             }
-            int[] here = weeks.lefts[depth];
-            int[] next = weeks.lefts[depth + 1];
-            copyRow(here, next);
-            tryFrom(weeks, depth + 1, worth, bits);
+            tryFrom(weeks, left, depth + 1, worth, bits);
+            int[] next = weeks.lefts[depth];
+            copyRow(left, next);
             int want = look(weeks.order, depth);
             if (weeks.printOne(want, next)) {
-                tryFrom(weeks, depth + 1, worth + look(weeks.state.wantWorths, want), bits | 1 << want);
+                tryFrom(weeks, next, depth + 1, worth + look(weeks.state.wantWorths, want), bits | 1 << want);
             }
         }
 
@@ -1583,11 +1584,11 @@ public final class WornType {
             sortByWeek();
             worth = 0;
             bits = 0;
-            copyRow(state.left, lefts[0]);
+            copyRow(state.left, leftBehind);
         }
 
         private void printNext(int want) {
-            if (printOne(want, lefts[0])) {
+            if (printOne(want, leftBehind)) {
                 worth += look(state.wantWorths, want);
                 bits |= 1 << want;
             }
